@@ -833,7 +833,7 @@ public final class WellBack {
 
         boolean hasCells(int i, int n) {
             // length - i, as i + n may wrap.
-            return i >= 0 && i <= length && n >= 0 && n <= length - i;
+            return length <= cells.length && i >= 0 && i <= length && n >= 0 && n <= length - i;
         }
 
         int numberAt(int i) {

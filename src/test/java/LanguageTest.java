@@ -50,6 +50,9 @@ public final class LanguageTest {
         Tree.Kind.BINDING_PATTERN, Tree.Kind.STRING_LITERAL, Tree.Kind.DOUBLE_LITERAL, Tree.Kind.FLOAT_LITERAL,
         Tree.Kind.ENHANCED_FOR_LOOP);
 
+    // Of the types that rule 3 leaves those that the program may need, beside its own classes and rows.
+    private static final Set<String> NUMBERS = Set.of("int", "long", "short", "byte", "char", "boolean");
+
     private static int wrong = 0;
 
     public static void main(String[] args) throws IOException, IllegalAccessException {
@@ -115,8 +118,10 @@ public final class LanguageTest {
     private static final class Rules extends TreeScanner<Void, Void> {
         private final CompilationUnitTree unit;
         private final Map<String, Set<String>> calls = new HashMap<>();
+        private final Set<String> own = new TreeSet<>();
         private String method = "";
         private int classes = 0;
+        private int level = 0;
 
         Rules(CompilationUnitTree unit) {
             this.unit = unit;
@@ -124,10 +129,36 @@ public final class LanguageTest {
 
         @Override public Void visitCompilationUnit(CompilationUnitTree tree, Void none) {
             rule(tree.getTypeDecls().size() == 1, "one class at the top");
+            rule(text(unit).chars().allMatch(sign -> sign > 0 && sign < 128), "signs 1 to 127 alone");
+            for (Tree inside : ((ClassTree) tree.getTypeDecls().get(0)).getMembers()) {
+                if (inside instanceof ClassTree c) {
+                    own.add(c.getSimpleName().toString());
+                }
+            }
             super.visitCompilationUnit(tree, none);
             rule(classes <= 12, "at most twelve classes");
             calls.keySet().forEach(name -> rule(deep(name, 0) <= 8, name + " calls more than eight deep"));
             return none;
+        }
+
+        private static String text(CompilationUnitTree unit) {
+            try {
+                return unit.getSourceFile().getCharContent(true).toString();
+            } catch (IOException e) {
+                return String.valueOf((char) 128);
+            }
+        }
+
+        private boolean isLeft(String type) {
+            return NUMBERS.contains(type.replaceFirst("\\[]$", "")) || own.contains(type.replaceFirst("\\[]$", ""));
+        }
+
+        @Override public Void visitVariable(VariableTree tree, Void none) {
+            rule(isLeft(tree.getType().toString()), "a type that no test here knows: " + tree);
+            if (isStatic(tree)) {
+                rule(NUMBERS.contains(tree.getType().toString()), tree + " is no constant of a number");
+            }
+            return super.visitVariable(tree, none);
         }
 
         // A name that calls itself counts as too deep: there is no recursion in the program.
@@ -147,6 +178,7 @@ public final class LanguageTest {
 
         @Override public Void visitClass(ClassTree tree, Void none) {
             classes++;
+            level++;
             rule(method.isEmpty(), "a local or anonymous class: " + tree);
             long fields = tree.getMembers().stream().filter(m -> m instanceof VariableTree v && !isStatic(v)).count();
             rule(fields <= 20, tree.getSimpleName() + " has " + fields + " fields");
@@ -156,7 +188,9 @@ public final class LanguageTest {
                     rule(v.getModifiers().getFlags().contains(javax.lang.model.element.Modifier.FINAL), v + " is final");
                 }
             }
-            return super.visitClass(tree, none);
+            super.visitClass(tree, none);
+            level--;
+            return none;
         }
 
         private static boolean isStatic(VariableTree v) {
@@ -168,6 +202,10 @@ public final class LanguageTest {
             calls.computeIfAbsent(method, name -> new TreeSet<>());
             rule(tree.getParameters().size() <= 7, method + " takes more than seven parameters");
             rule(tree.toString().strip().lines().count() <= 60, method + " has more than sixty lines");
+            rule(level == 1 || FACE.stream().noneMatch(f -> f.contains(" " + tree.getName() + "(")),
+                method + " bears a public name");
+            rule(tree.getReturnType() == null || tree.getReturnType().toString().equals("void")
+                || isLeft(tree.getReturnType().toString()), method + " gives a type that no test here knows");
             rule(!List.of("equals", "hashCode", "toString").contains(method), method + " is not to be written");
             super.visitMethod(tree, none);
             method = "";

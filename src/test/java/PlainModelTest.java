@@ -5,7 +5,7 @@ import java.util.List;
 // Long runs of mixed calls against a plain model that is written apart from the program: it parses by a
 // pattern, holds real byte, short and int rows, follows a thing hour by hour and tries every order of a ROTA.
 public final class PlainModelTest {
-    private static final int RUNS = 1500, CALLS = 512;
+    private static final int RUNS = 1500, CALLS = 512, LONGEST_STEPS = 50;
     private static long seed = 20261119L;
 
     public static void main(String[] args) {
@@ -61,31 +61,77 @@ public final class PlainModelTest {
         WellBack w = new WellBack();
         Model m = new Model();
         int calls = 0;
-        while (calls < CALLS - 50) {
-            if (below(60) == 0 || calls == 0) {
-                String text = someText();
-                int sheet = below(4);
-                int lane = below(3);
-                List<int[]> steps = new ArrayList<>();
-                steps.add(new int[] {20, sheet, lane, text.length(), 0, 0});
-                for (int i = 0; i < text.length(); i++) {
-                    steps.add(new int[] {22, sheet, i, text.charAt(i), 0, 0});
-                }
-                steps.add(new int[] {0, sheet, lane, 0, text.length(), 0});
-                for (int[] step : steps) {
-                    calls++;
-                    if (differs(run, w, m, step)) {
-                        return 1;
-                    }
-                }
-            } else {
+        while (calls < CALLS - LONGEST_STEPS) {
+            for (int[] step : someSteps(m, calls == 0)) {
                 calls++;
-                if (differs(run, w, m, someCall())) {
+                if (differs(run, w, m, step)) {
                     return 1;
                 }
             }
         }
         return 0;
+    }
+
+    // Now and then some calls that belong together, as calls by themselves seldom come to what they ask.
+    private static List<int[]> someSteps(Model m, boolean first) {
+        int which = first ? 0 : below(80);
+        if (which == 0) {
+            return stepsOfAText();
+        }
+        if (which < 3 && !m.things.isEmpty()) {
+            return which == 1 ? stepsOfHours(m.things.size()) : stepsOfReadings(m);
+        }
+        return List.of(someCall());
+    }
+
+    private static List<int[]> stepsOfAText() {
+        String text = someText();
+        int sheet = below(4);
+        int lane = below(3);
+        List<int[]> steps = new ArrayList<>();
+        steps.add(new int[] {20, sheet, lane, text.length(), 0, 0});
+        for (int i = 0; i < text.length(); i++) {
+            steps.add(new int[] {22, sheet, i, text.charAt(i), 0, 0});
+        }
+        steps.add(new int[] {0, sheet, lane, 0, text.length(), 0});
+        return steps;
+    }
+
+    private static List<int[]> stepsOfHours(int things) {
+        int sheet = below(4);
+        int lane = below(3);
+        int ahead = below(3);
+        List<int[]> steps = new ArrayList<>();
+        steps.add(new int[] {20, sheet, lane, ahead + things, 0, 0});
+        for (int x = 0; x < things; x++) {
+            steps.add(new int[] {22, sheet, ahead + x, below(60) == 0 ? near(0, 23) : below(24), 0, 0});
+        }
+        for (int what : new int[] {0, 1, 2, 10, 11, 12, 13, 14}) {
+            steps.add(new int[] {10, sheet, lane, ahead, things, what});
+        }
+        return steps;
+    }
+
+    // READINGS that are so, but for one now and then: what is left of a set tells more than an empty one.
+    private static List<int[]> stepsOfReadings(Model m) {
+        List<int[]> steps = new ArrayList<>();
+        if (below(2) == 0) {
+            steps.add(new int[] {14, m.readings.size(), 0, 0, 0, 0});
+        }
+        int many = 1 + below(9);
+        for (int k = 0; k < many; k++) {
+            Thing t = m.things.get(below(m.things.size()));
+            int hour = below(24);
+            int who = below(20) == 0 ? below(5) : m.drop(t.owner, hour, t.delay(m.depth)).who;
+            steps.add(new int[] {13, t.number, hour, who, 0, 0});
+            steps.add(new int[] {15 + below(3), below(m.things.size()), 0, 0, 0, 0});
+        }
+        steps.add(new int[] {17, 0, 0, 0, 0, 0});
+        for (int x = 0; x < m.things.size(); x++) {
+            steps.add(new int[] {15, x, 0, 0, 0, 0});
+            steps.add(new int[] {16, x, 0, 0, 0, 0});
+        }
+        return steps;
     }
 
     private static int[] someCall() {
